@@ -515,12 +515,9 @@ public final class HashedDirectory {
 
     /** Counts the entries whose hashes have the first bits, as many as the depth, of a hash. */
     int countInBranch(int hash, int depth) {
-      int place = placeAfter(Tree.firstHash(hash, depth) * KEYS_PER_HASH - 1);
-      return placeBehindBranch(hash, depth) - place;
-    }
-
-    int placeBehindBranch(int hash, int depth) {
-      return placeAfter((Tree.lastHash(hash, depth) + 1) * KEYS_PER_HASH - 1);
+      int before = Tree.firstHash(hash, depth) * KEYS_PER_HASH - 1;
+      int last = Tree.lastHash(hash, depth) * KEYS_PER_HASH + KEYS_PER_HASH - 1;
+      return placeAfter(last) - placeAfter(before);
     }
 
     void insert(int key, int name) {
@@ -691,7 +688,8 @@ public final class HashedDirectory {
         return place;
       }
       int hash = entries.hashIn(place);
-      return entries.placeBehindBranch(hash, tree.depths[hash]);
+      int lastHash = Tree.lastHash(hash, tree.depths[hash]);
+      return entries.placeAfter(lastHash * KEYS_PER_HASH + KEYS_PER_HASH - 1);
     }
   }
 
