@@ -4,6 +4,10 @@ final class Check {
     Object run();
   }
 
+  static final String INDEX = "throws.IndexOutOfBoundsException";
+  static final String ARGUMENT = "throws.IllegalArgumentException";
+  static final String STATE = "throws.IllegalStateException";
+
   private static int wrong = 0;
   private static int checked = 0;
 

@@ -3,9 +3,6 @@ public final class EntriesTest {
   private static final Class<?> INDEX = IndexOutOfBoundsException.class;
   private static final Class<?> ARGUMENT = IllegalArgumentException.class;
   private static final Class<?> STATE = IllegalStateException.class;
-  private static final String[] NO_NAMES = {
-    "", "abcdefg", "A", "aB", "a b", " a", "a ", "+a", "-a", "a=b", "a;b", "a1", "`", "{", "~"
-  };
 
   private EntriesTest() {}
 
@@ -81,7 +78,7 @@ public final class EntriesTest {
   }
 
   private static void promise2AddWrong() {
-    for (String text : NO_NAMES) {
+    for (String text : Samples.NO_NAMES) {
       HashedDirectory x = Check.with("a");
       Check.type(x, text);
       Check.dueThrow(x, "add() of '" + text + "'", ARGUMENT, x::add);
@@ -144,7 +141,7 @@ public final class EntriesTest {
   }
 
   private static void promise4RenameWrong() {
-    for (String text : NO_NAMES) {
+    for (String text : Samples.NO_NAMES) {
       HashedDirectory x = Check.with("a");
       Check.type(x, text);
       Check.dueThrow(x, "rename(0) to '" + text + "'", ARGUMENT, () -> x.rename(0));
@@ -193,7 +190,7 @@ public final class EntriesTest {
       Check.due("find() of " + texts[i], x.find(), ids[i]);
       Check.due("textLength() behind find()", x.textLength(), texts[i].length());
     }
-    for (String text : NO_NAMES) {
+    for (String text : Samples.NO_NAMES) {
       HashedDirectory y = Check.with("a");
       Check.type(y, text);
       Check.dueThrow(y, "find() of '" + text + "'", ARGUMENT, y::find);
@@ -209,7 +206,7 @@ public final class EntriesTest {
       Check.due("hashOfText() of " + texts[i], x.hashOfText(), hashes[i]);
       Check.due("textLength() behind hashOfText()", x.textLength(), texts[i].length());
     }
-    for (String text : NO_NAMES) {
+    for (String text : Samples.NO_NAMES) {
       HashedDirectory y = new HashedDirectory();
       Check.type(y, text);
       Check.dueThrow(y, "hashOfText() of '" + text + "'", ARGUMENT, y::hashOfText);
@@ -253,8 +250,8 @@ public final class EntriesTest {
     Check.due("withHash(63)", x.withHash(63), 0);
     Check.dueThrow(x, "withHash(-1)", INDEX, () -> x.withHash(-1));
     Check.dueThrow(x, "withHash(64)", INDEX, () -> x.withHash(64));
-    Check.add(x, TreeTest.nameWithHash(0));
-    Check.add(x, TreeTest.nameWithHash(63));
+    Check.add(x, Samples.nameWithHash(0));
+    Check.add(x, Samples.nameWithHash(63));
     Check.due("withHash(0)", x.withHash(0), 1);
     Check.due("withHash(63)", x.withHash(63), 1);
   }

@@ -156,17 +156,17 @@ public final class ReadersTest {
   }
 
   private static void promise9SeekWrong() {
-    HashedDirectory x = new HashedDirectory();
-    x.open(0);
     int[] positions = {-2, -3, 64000, Integer.MIN_VALUE, Integer.MAX_VALUE};
     for (int position : positions) {
+      HashedDirectory x = new HashedDirectory();
+      x.open(0);
       String at = position + ")";
       Check.dueThrow(x, "seek(0, " + at, ARGUMENT, () -> x.seek(0, position));
       Check.dueThrow(x, "seek(1, " + at, ARGUMENT, () -> x.seek(1, position));
       Check.dueThrow(x, "seek(4, " + at, INDEX, () -> x.seek(4, position));
       Check.dueThrow(x, "seek(-1, " + at, INDEX, () -> x.seek(-1, position));
+      Check.dueThrow(x, "seek(1, 5)", STATE, () -> x.seek(1, 5));
     }
-    Check.dueThrow(x, "seek(1, 5)", STATE, () -> x.seek(1, 5));
   }
 
   private static void promise31Position() {

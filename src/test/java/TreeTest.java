@@ -22,23 +22,6 @@ public final class TreeTest {
     Check.finish("TreeTest");
   }
 
-  /** Answers the first name of two letters that has a hash. */
-  static String nameWithHash(int hash) {
-    return namesWithHash(hash, 1)[0];
-  }
-
-  static String[] namesWithHash(int hash, int count) {
-    String[] names = new String[count];
-    int found = 0;
-    for (int i = 0; i < 26 * 26 && found < count; i++) {
-      String name = "" + (char) ('a' + i / 26) + (char) ('a' + i % 26);
-      if (Model.hash(name) == hash) {
-        names[found++] = name;
-      }
-    }
-    return names;
-  }
-
   /**
    * "a" to "e" have the hashes 36 to 40: the root splits, then the leaf of 32 to 63, then that of
    * 32 to 47 into those of 32 to 39 and of 40 to 47.
@@ -94,7 +77,7 @@ public final class TreeTest {
   }
 
   private static void promise27SplitsEndAtDepthSix() {
-    HashedDirectory x = Check.with(namesWithHash(21, 7));
+    HashedDirectory x = Check.with(Samples.namesWithHash(21, 7));
     Check.due("splits()", x.splits(), 6);
     Check.due("leaves()", x.leaves(), 7);
     Check.due("depthOf(21)", x.depthOf(21), 6);
@@ -109,9 +92,9 @@ public final class TreeTest {
     int[] hashes = {0, 63};
     for (int hash : hashes) {
       int other = 63 - hash;
-      String[] names = namesWithHash(hash, 4);
+      String[] names = Samples.namesWithHash(hash, 4);
       HashedDirectory x = Check.with(names);
-      Check.add(x, nameWithHash(other));
+      Check.add(x, Samples.nameWithHash(other));
       Check.due("splits() of the root", x.splits(), 1);
       Check.due("depthOf(" + hash + ")", x.depthOf(hash), 1);
       Check.due("depthOf(" + other + ")", x.depthOf(other), 1);
@@ -146,7 +129,7 @@ public final class TreeTest {
 
   /** The two halves of the root: three entries on the left, four and then fewer on the right. */
   private static void promise28NoMergeOfThree() {
-    HashedDirectory x = Check.with(nameWithHash(0), nameWithHash(1), nameWithHash(2));
+    HashedDirectory x = Check.with(Samples.nameWithHash(0), Samples.nameWithHash(1), Samples.nameWithHash(2));
     Check.run(x, "+a;+b;+c;+d;+e");
     Check.due("leaves()", x.leaves(), 4);
     Check.run(x, "-a;-b;-c");
@@ -163,7 +146,7 @@ public final class TreeTest {
 
   /** The entry is removed first, so a leaf may be merged and then split again. */
   private static void promise28MergesOfRename() {
-    String[] low = namesWithHash(0, 5);
+    String[] low = Samples.namesWithHash(0, 5);
     HashedDirectory x = Check.with(low[0], low[1], low[2], low[3], low[4]);
     Check.run(x, "-" + low[0] + ";-" + low[1]);
     Check.due("leaves()", x.leaves(), 7);
@@ -183,7 +166,7 @@ public final class TreeTest {
     Check.due("meanLeafSize()", x.meanLeafSize(), 3.0f);
     Check.run(x, "+d;+e");
     Check.due("meanLeafSize()", x.meanLeafSize(), 1.25f);
-    HashedDirectory y = Check.with(namesWithHash(21, 5));
+    HashedDirectory y = Check.with(Samples.namesWithHash(21, 5));
     Check.due("meanLeafSize()", y.meanLeafSize(), 5.0f / 7.0f);
     Check.due("meanLeafSize() saves nothing", y.savedStates(), 5);
   }
@@ -199,11 +182,11 @@ public final class TreeTest {
     Check.due("a look behind leavesIfAdded()", Check.look(x), before);
     Check.due("add()", x.add(), 4);
     Check.due("leaves() then", x.leaves(), 4);
-    Check.type(x, nameWithHash(32));
+    Check.type(x, Samples.nameWithHash(32));
     Check.due("leavesIfAdded() of the fifth of a leaf", x.leavesIfAdded(), 5);
     Check.type(x, "f");
     Check.due("leavesIfAdded() of a leaf with room", x.leavesIfAdded(), 4);
-    String[] same = namesWithHash(21, 6);
+    String[] same = Samples.namesWithHash(21, 6);
     HashedDirectory y = Check.with(same[0], same[1], same[2], same[3]);
     Check.type(y, same[4]);
     Check.due("leavesIfAdded() down to the depth 6", y.leavesIfAdded(), 7);

@@ -1,7 +1,6 @@
-/** Promises 14 to 16 and 34, and that calls that throw save no state. */
+/** Promises 14 to 16 and 34: saved states and slots. */
 public final class UndoAndSlotsTest {
   private static final Class<?> INDEX = IndexOutOfBoundsException.class;
-  private static final Class<?> ARGUMENT = IllegalArgumentException.class;
   private static final Class<?> STATE = IllegalStateException.class;
   private static final int[] NO_SLOTS = {-1, 2, Integer.MIN_VALUE, Integer.MAX_VALUE};
 
@@ -17,7 +16,6 @@ public final class UndoAndSlotsTest {
     promise16RestoreWrong();
     promise34SavedStates();
     queriesSaveNothing();
-    throwingCallsDiscardNothing();
     Check.finish("UndoAndSlotsTest");
   }
 
@@ -177,25 +175,5 @@ public final class UndoAndSlotsTest {
     x.peek(0);
     x.remaining(0);
     Check.due("a look behind queries", Check.look(x), before);
-  }
-
-  /** With six saved states a state saved wrongly would discard the oldest one. */
-  private static void throwingCallsDiscardNothing() {
-    HashedDirectory x = Check.with("a", "b", "c", "d", "e", "f");
-    Check.type(x, "a");
-    Check.dueThrow(x, "add()", STATE, x::add);
-    Check.dueThrow(x, "rename(0)", STATE, () -> x.rename(0));
-    Check.dueThrow(x, "runText()", ARGUMENT, x::runText);
-    Check.dueThrow(x, "remove(9)", INDEX, () -> x.remove(9));
-    Check.dueThrow(x, "open(4)", INDEX, () -> x.open(4));
-    Check.dueThrow(x, "close(0)", STATE, () -> x.close(0));
-    Check.dueThrow(x, "next(0)", STATE, () -> x.next(0));
-    Check.dueThrow(x, "readLeaf(0)", STATE, () -> x.readLeaf(0));
-    Check.dueThrow(x, "seek(0, 0)", STATE, () -> x.seek(0, 0));
-    Check.dueThrow(x, "restore(0)", STATE, () -> x.restore(0));
-    for (int entries = 5; entries >= 0; entries--) {
-      x.undo();
-      Check.due("entries() behind undo()", x.entries(), entries);
-    }
   }
 }
