@@ -29,6 +29,7 @@ public final class ReadersBoundaryTest {
     readersOfAnEmptyDirectory();
     readLeafFromEachEntryOfALeaf();
     readLeafOverEmptyLeaves();
+    readLeafUpToTheLeastKeyOfTheNextLeaf();
     readLeafOfOneEntry();
     readLeafOfMoreThanFour();
     readLeafOfTheRoot();
@@ -238,6 +239,19 @@ public final class ReadersBoundaryTest {
     dueReader("at z", x, 61005, -2, 0);
   }
 
+  /** The key 32000 is the least of its leaf, and the leaf before it ends with 31999. */
+  private static void readLeafUpToTheLeastKeyOfTheNextLeaf() {
+    HashedDirectory x = new HashedDirectory();
+    Check.add(x, Samples.nameWithHash(32));
+    Samples.addAll(x, Samples.namesWithHash(31, 4));
+    Check.due("leaves()", x.leaves(), 2);
+    x.open(0);
+    Check.due("readLeaf(0) of 0 to 31", x.readLeaf(0), 4);
+    dueReader("at the end of the leaf", x, 31004, 0, 1);
+    Check.due("readLeaf(0) of 32 to 63", x.readLeaf(0), 1);
+    dueReader("at the last entry", x, 32000, -2, 0);
+  }
+
   private static void readLeafOfOneEntry() {
     HashedDirectory x = reading(Check.with("z"));
     Check.due("readLeaf(0) of one entry", x.readLeaf(0), 1);
@@ -274,7 +288,8 @@ public final class ReadersBoundaryTest {
       Check.due("remaining(0)", x.remaining(0), left);
     }
     Check.due("next(0) behind 40 entries", x.next(0), -2);
-    Check.due("remaining(0)", x.remaining(0), 0);
+    Check.due("readLeaf(0) behind 40 entries", x.readLeaf(0), 0);
+    dueReader("behind 40 entries", x, 63031, -2, 0);
   }
 
   /** "Positions of readers do not change by these operations." */
