@@ -87,8 +87,8 @@ final class Samples {
   }
 
   /**
-   * Six saved states are full, slot 0 holds a state and slot 1 none, the reader 0 is at START, 1 at
-   * a key, 2 beside one, and 3 is closed; the tree has four leaves, and 1 is an id that was removed.
+   * Six states are saved, slot 0 holds a state and slot 1 none, the reader 0 is at START, 1 at a
+   * key, 2 beside one, and 3 is closed; the tree has four leaves, and the id 1 was removed.
    */
   static HashedDirectory busy(String text) {
     HashedDirectory x = new HashedDirectory();

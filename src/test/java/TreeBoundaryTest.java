@@ -127,7 +127,7 @@ public final class TreeBoundaryTest {
     }
   }
 
-  /** "the leaf of the hash of the new entry is looked at next": it holds three, two, one of them. */
+  /** "the leaf of the hash of the new entry is looked at next": with up to four of the five. */
   private static void aSplitEndsWhereTheLeafHoldsFour() {
     for (int right = 1; right <= 4; right++) {
       HashedDirectory x = two(16, 5 - right, 48, right);

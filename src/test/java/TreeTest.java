@@ -129,7 +129,8 @@ public final class TreeTest {
 
   /** The two halves of the root: three entries on the left, four and then fewer on the right. */
   private static void promise28NoMergeOfThree() {
-    HashedDirectory x = Check.with(Samples.nameWithHash(0), Samples.nameWithHash(1), Samples.nameWithHash(2));
+    HashedDirectory x = Check.with(
+        Samples.nameWithHash(0), Samples.nameWithHash(1), Samples.nameWithHash(2));
     Check.run(x, "+a;+b;+c;+d;+e");
     Check.due("leaves()", x.leaves(), 4);
     Check.run(x, "-a;-b;-c");
