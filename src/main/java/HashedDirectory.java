@@ -210,7 +210,7 @@ public final class HashedDirectory {
     return state.entries.count;
   }
 
-  // ---- queries about entries
+  // ---- queries about entries; queries change nothing
 
   /** Answers the number of entries. */
   public int entries() {
@@ -288,7 +288,9 @@ public final class HashedDirectory {
 
   /** Answers the number of entries for each leaf. */
   public float meanLeafSize() {
-    return (float) state.entries.count / (float) state.tree.leafCount();
+    int leafCount = state.tree.leafCount();
+    // The root is always there, but no divisor goes unlooked at.
+    return leafCount > 0 ? (float) state.entries.count / (float) leafCount : 0;
   }
 
   /** Answers how many leaves there would be if the name in the text buffer was added. */

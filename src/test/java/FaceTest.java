@@ -1,13 +1,21 @@
+import java.io.IOException;
 import java.lang.reflect.Constructor;
 import java.lang.reflect.Field;
 import java.lang.reflect.Method;
 import java.lang.reflect.Modifier;
+import java.nio.file.Files;
+import java.nio.file.Path;
+import java.util.ArrayList;
 import java.util.Arrays;
+import java.util.List;
 import java.util.TreeSet;
+import java.util.regex.Matcher;
+import java.util.regex.Pattern;
 import java.util.stream.Collectors;
 
 /** The public face is the document's, and nothing else can be seen from outside. */
 public final class FaceTest {
+  private static final Pattern PUBLIC_CALL = Pattern.compile("^  public (?:int|float) (\\w+)\\(");
   private static final String[] METHODS = {
     "int add() IllegalArgumentException IllegalStateException",
     "int remove(int) IndexOutOfBoundsException",
@@ -45,14 +53,29 @@ public final class FaceTest {
     "int textLength()"
   };
 
+  /** What the interface says ahead of its calls. */
+  private static final String[] HEADINGS = {
+    "---- entries: add remove rename",
+    "---- readers: open close next readLeaf seek",
+    "---- texts: appendText clearText errorPosition runText",
+    "---- undo and slots: undo save restore",
+    "---- queries about entries; queries change nothing:"
+        + " entries idAt find hashOfText hashOf letterOf withHash",
+    "---- queries about the tree:"
+        + " leaves depthOf leafSize splits merges meanLeafSize leavesIfAdded",
+    "---- queries about readers: position peek remaining savedStates textLength"
+  };
+
   private FaceTest() {}
 
-  public static void main(String[] args) {
+  public static void main(String[] args) throws IOException {
     Class<?> face = HashedDirectory.class;
     Check.due("the class", Modifier.toString(face.getModifiers()), "public final");
     Check.due("the methods", methods(face), new TreeSet<>(Arrays.asList(METHODS)));
     Check.due("the constructors", constructors(face), "public HashedDirectory()");
-    Check.due("the fields", fields(face), new TreeSet<>(Arrays.asList("NONE", "START")));
+    Check.due("the fields", fields(face), new TreeSet<>(Arrays.asList(
+        "public static final int NONE", "public static final int START")));
+    Check.due("the headings and their calls", headings(), Arrays.asList(HEADINGS));
     privateMethodsHaveNamesOfTheirOwn(face);
     Check.finish("FaceTest");
   }
@@ -83,10 +106,27 @@ public final class FaceTest {
     TreeSet<String> fields = new TreeSet<>();
     for (Field field : face.getDeclaredFields()) {
       if (!Modifier.isPrivate(field.getModifiers())) {
-        fields.add(field.getName());
+        fields.add(Modifier.toString(field.getModifiers()) + " " + field.getType() + " "
+            + field.getName());
       }
     }
     return fields;
+  }
+
+  /** The headings are comments, so they are read from the source, which .ci/run stands above. */
+  private static List<String> headings() throws IOException {
+    List<String> headings = new ArrayList<>();
+    for (String line : Files.readAllLines(Path.of("src/main/java/HashedDirectory.java"))) {
+      Matcher call = PUBLIC_CALL.matcher(line);
+      if (line.startsWith("  // ---- ")) {
+        headings.add(line.substring(5) + ":");
+      } else if (call.find() && !headings.isEmpty()) {
+        int last = headings.size() - 1;
+        headings.set(last, headings.get(last) + " " + call.group(1));
+      }
+    }
+    headings.removeIf(heading -> heading.endsWith(":"));
+    return headings;
   }
 
   private static void privateMethodsHaveNamesOfTheirOwn(Class<?> face) {

@@ -22,24 +22,9 @@ public final class RefusalsTest {
   };
   private static final String FULL_TEXT = "+f;".repeat(26) + "+f";
 
-  private interface Setup {
-    HashedDirectory make();
-  }
-
-  private interface Use {
-    Object on(HashedDirectory x);
-  }
-
   private interface UseOf {
     Object on(HashedDirectory x, int argument);
   }
-
-  /** What may tell a change that no query tells at once: saved states, slots, ids and the text. */
-  private static final Use[] LATER = {
-    x -> "nothing", x -> undo(x, 1), x -> undo(x, 2), x -> undo(x, 3), x -> undo(x, 4),
-    x -> undo(x, 5), x -> undo(x, 6), x -> undo(x, 7), x -> x.restore(0), x -> x.restore(1),
-    x -> Check.add(x, "zq"), HashedDirectory::runText, x -> x.rename(0)
-  };
 
   private RefusalsTest() {}
 
@@ -71,27 +56,8 @@ public final class RefusalsTest {
     Check.finish("RefusalsTest");
   }
 
-  private static String undo(HashedDirectory x, int times) {
-    StringBuilder answers = new StringBuilder();
-    for (int i = 0; i < times; i++) {
-      answers.append(Check.answer(x::undo)).append(' ');
-    }
-    return answers.toString();
-  }
-
-  /** Each look has a new object, and a twin of it that the refused call was not made on. */
-  private static void refused(String call, Setup setup, Use use, String exception) {
-    for (int i = 0; i < LATER.length; i++) {
-      Use later = LATER[i];
-      for (Look.Part part : Look.PARTS) {
-        HashedDirectory x = setup.make();
-        HashedDirectory twin = setup.make();
-        String title = call + ", then later call " + i;
-        Check.due(call, Check.answer(() -> use.on(x)), exception);
-        Check.due(title, Check.answer(() -> later.on(x)), Check.answer(() -> later.on(twin)));
-        Check.due("a look behind " + title, part.of(x), part.of(twin));
-      }
-    }
+  private static void refused(String call, Twins.Setup setup, Twins.Use use, String exception) {
+    Twins.unchanged(call, setup, use, exception);
   }
 
   private static void refusedOfEach(String call, int[] arguments, UseOf use, String exception) {
@@ -101,7 +67,7 @@ public final class RefusalsTest {
     }
   }
 
-  private static void refusedOfNoNames(String call, Use use) {
+  private static void refusedOfNoNames(String call, Twins.Use use) {
     for (String text : Samples.NO_NAMES) {
       refused(call + " of '" + text + "'", () -> Samples.busy(text), use, Check.ARGUMENT);
     }
@@ -256,7 +222,7 @@ public final class RefusalsTest {
 
   private static HashedDirectory undoneSixTimes() {
     HashedDirectory x = Samples.busy("z");
-    undo(x, 6);
+    Twins.undo(x, 6);
     return x;
   }
 
